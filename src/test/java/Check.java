@@ -1,0 +1,90 @@
+/** Counts and prints the answers that are not the ones that are due. */
+final class Check {
+    private final String title;
+    private int checks;
+    private int wrong;
+
+    Check(String title) {
+        this.title = title;
+    }
+
+    void due(String what, long got, long want) {
+        checks++;
+        if (got != want) {
+            wrong++;
+            System.out.println(title + ": " + what + " answered " + got + ", due is " + want);
+        }
+    }
+
+    void due(String what, String got, String want) {
+        checks++;
+        if (!got.equals(want)) {
+            wrong++;
+            System.out.println(title + ": " + what + " is \"" + got + "\", due is \"" + want + "\"");
+        }
+    }
+
+    int wrong() {
+        return wrong;
+    }
+
+    void end() {
+        System.out.println(title + ": " + checks + " answers, " + wrong + " not as due");
+        if (wrong != 0) {
+            System.exit(1);
+        }
+    }
+
+    /** Appends a text to the pad, eight characters at a time. */
+    static int type(BridgeWardens wardens, String text) {
+        int answer = wardens.count(13);
+        for (int from = 0; from < text.length(); from += 8) {
+            answer = wardens.put(packed(text.substring(from, Math.min(text.length(), from + 8))));
+        }
+        return answer;
+    }
+
+    static long packed(String text) {
+        long characters = 0;
+        for (char sign : text.toCharArray()) {
+            characters = characters << 8 | sign;
+        }
+        return characters;
+    }
+
+    static String pad(BridgeWardens wardens) {
+        StringBuilder text = new StringBuilder();
+        for (int place = 0; wardens.sign(place) >= 0; place++) {
+            text.append((char) wardens.sign(place));
+        }
+        return text.toString();
+    }
+
+    /** All that can be asked about the state without asking what if, but for the history. */
+    static String state(BridgeWardens wardens) {
+        StringBuilder text = new StringBuilder();
+        for (int what = 0; what <= 12; what++) {
+            text.append(wardens.count(what)).append(' ');
+        }
+        for (int bridge = 0; bridge < wardens.count(1); bridge++) {
+            text.append('\n');
+            for (int what = 0; what <= 7; what++) {
+                text.append(wardens.ofBridge(bridge, what)).append(' ');
+            }
+            for (int rank = 0; wardens.waits(bridge, rank) >= 0; rank++) {
+                text.append('w').append(wardens.waits(bridge, rank)).append(' ');
+            }
+        }
+        for (int cart = 0; cart < wardens.count(2); cart++) {
+            text.append('\n');
+            for (int what = 0; what <= 7; what++) {
+                text.append(wardens.ofCart(cart, what)).append(' ');
+            }
+            for (int bridge = 0; bridge < wardens.count(1); bridge++) {
+                text.append(wardens.knows(cart, bridge, 0)).append('-');
+                text.append(wardens.knows(cart, bridge, 1)).append(' ');
+            }
+        }
+        return text.toString();
+    }
+}
