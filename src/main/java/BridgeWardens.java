@@ -667,7 +667,6 @@ public final class BridgeWardens {
             lineLength++;
             comer.bridge = bridge;
             comer.guess = guess;
-            comer.waited = 0;
             place.waiting++;
             return place.waiting;
         }
@@ -927,9 +926,9 @@ public final class BridgeWardens {
             return wider;
         }
 
-        /** The lowest bridge by which a way of so many steps begins. */
+        /** The lowest bridge by which a way of so many steps begins, NONE if there is none (or no step to take). */
         int firstBridge(int from, int to, int steps) {
-            for (int i = 0; i < bridgeCount && steps > 0; i++) {
+            for (int i = 0; i < bridgeCount; i++) {
                 Bridge bridge = bridges[i];
                 if (bridge.isAt(from) && stepsBetween(bridge.farFrom(from), to) == steps - 1) {
                     return i;

@@ -60,6 +60,7 @@ public final class PromisesTest {
         waitingAlone();
         gifts();
         manyBridgesInAnHour();
+        fullHouse();
         write();
         ofBridge();
         ofCart();
@@ -373,6 +374,13 @@ public final class PromisesTest {
         due("knows(0, 1, 1) is forgotten", x.knows(0, 1, 1), 9);
         due("knows(3, 1, 1) is forgotten", x.knows(3, 1, 1), 9);
         due("knows(0, 0, 0) is kept", x.knows(0, 0, 0), 50);
+        x = valley();
+        x.hint(0, 0);
+        x.guess(1, 0, 0);
+        due("knows(0, 0, 0)", x.knows(0, 0, 0), 50);
+        due("pass(6)", x.pass(6), 1);
+        due("knows(0, 0, 0) is forgotten", x.knows(0, 0, 0), 0);
+        due("knows(0, 0, 1) is forgotten", x.knows(0, 0, 1), 99);
     }
 
     private static void tiesInAnHour() {
@@ -490,6 +498,37 @@ public final class PromisesTest {
         due("no gift for another guess", x.ofCart(1, 7), 0);
     }
 
+    /** All 12 bridges and 8 carts are there; the carts come to wait at the last bridges. */
+    private static void fullHouse() {
+        promise = 8;
+        BridgeWardens x = new BridgeWardens();
+        for (int number = 0; number < 12; number++) {
+            x.bridge(number % 7, 7, 2 + number);
+        }
+        for (int number = 0; number < 8; number++) {
+            x.cart(7, 10 * number);
+        }
+        for (int number = 0; number < 8; number++) {
+            due("guess", x.guess(number, 11 - number / 2, 0), 1 + number % 2);
+        }
+        // Both guesses are as near at each of the four bridges: carts 2, 4 and 6 come over, and cart 1, as cart 0 has
+        // no coins.
+        int staying = 1 | 8 | 32 | 128;
+        due("would(1, 0)", x.would(1, 0), 4);
+        due("would(1, 1)", x.would(1, 1), 12);
+        due("would(1, 3)", x.would(1, 3), staying);
+        due("pass(1)", x.pass(1), 4);
+        due("count(3)", x.count(3), staying);
+        due("count(5)", x.count(5), 280 - x.count(6));
+        due("why(7)", x.why(7), 2);
+        due("overIn(7)", x.overIn(7), 5);
+        due("route(0, 6, 1)", x.route(0, 6, 1), 0);
+        due("route(6, 0, 1)", x.route(6, 0, 1), 6);
+        due("next(11)", x.next(11), NONE);
+        due("ofBridge(8, 7)", x.ofBridge(8, 7), 1);
+        due("count(4)", x.count(4), 4);
+    }
+
     private static void manyBridgesInAnHour() {
         promise = 8;
         BridgeWardens x = valley();
@@ -544,6 +583,13 @@ public final class PromisesTest {
         }
         due("write(7)", x.write(7), 80);
         due("the pad", Check.pad(x), note.substring(0, 80));
+        int[] coins = {0, 1, 9, 10, 11, 100, 1000, 9990};
+        x = new BridgeWardens();
+        for (int number = 0; number < 8; number++) {
+            x.cart(0, coins[number]);
+            x.write(number);
+            due("the pad", Check.pad(x), "c" + number + "@0*" + coins[number]);
+        }
         x = new BridgeWardens();
         x.bridge(0, 1, 2);
         x.cart(0, 1);
@@ -1089,6 +1135,88 @@ public final class PromisesTest {
         due("the state", Check.state(x), before[2]);
         undoOfTheSame();
         undoOfRiddles();
+        undoOfEachChange();
+        undoOfAnotherWorld();
+    }
+
+    /** Each change alone, from a state in which nothing is as it was first. */
+    private static void undoOfEachChange() {
+        for (int step = 0; step < 8; step++) {
+            BridgeWardens x = valley();
+            x.set(0, 1);
+            x.set(3, 6);
+            x.hint(0, 1);
+            x.guess(0, 1, 4);
+            x.guess(3, 1, 0);
+            x.pass(2);
+            x.leave(3);
+            x.guess(3, 1, 2);
+            x.pass(1);
+            x.guess(0, 1, 8);
+            x.hint(1, 1);
+            String before = Check.state(x);
+            due("count(14)", x.count(14), 6);
+            due("change " + step, otherChange(x, step) < 0 ? 1 : 0, 0);
+            due("the change shows", Check.state(x).equals(before) ? 1 : 0, 0);
+            due("undo()", x.undo(), 5);
+            due("the state before change " + step, Check.state(x), before);
+        }
+    }
+
+    private static int otherChange(BridgeWardens x, int step) {
+        switch (step) {
+            case 0:
+                return x.set(0, 9);
+            case 1:
+                return x.bridge(3, 4, 20);
+            case 2:
+                return x.cart(1, 5);
+            case 3:
+                return x.hint(1, 0);
+            case 4:
+                return x.guess(1, 1, 4);
+            case 5:
+                return x.pass(99);
+            case 6:
+                return x.leave(0);
+            default:
+                Check.type(x, "p9;c7*7;b67*7;h0:0");
+                return x.carryOut();
+        }
+    }
+
+    /** What was saved comes back also where other bridges and carts stand in its place. */
+    private static void undoOfAnotherWorld() {
+        BridgeWardens x = tie(2, 2);
+        x.hint(0, 0);
+        x.pass(3);
+        String first = Check.state(x);
+        x = new BridgeWardens();
+        x.save(1);
+        x.bridge(5, 6, 1000);
+        x.bridge(6, 7, 33);
+        x.bridge(7, 0, 44);
+        x.cart(5, 77);
+        x.set(3, 1);
+        x.hint(0, 0);
+        x.guess(0, 0, 3);
+        x.pass(2);
+        String second = Check.state(x);
+        x.save(0);
+        x.restore(1);
+        x.bridge(0, 1, 100);
+        x.bridge(0, 2, 10);
+        x.cart(0, 2);
+        x.cart(0, 2);
+        x.guess(1, 1, 5);
+        x.guess(0, 1, 3);
+        x.hint(0, 0);
+        x.pass(3);
+        due("the state of a new one", Check.state(x), first);
+        x.restore(0);
+        due("the state that was saved", Check.state(x), second);
+        x.undo();
+        due("the state before", Check.state(x), first);
     }
 
     private static int change(BridgeWardens x, int step) {
