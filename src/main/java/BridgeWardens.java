@@ -816,10 +816,10 @@ public final class BridgeWardens {
         Cart waiterAt(Bridge bridge, int rank) {
             int ahead = 0;
             for (int i = 0; i < lineLength; i++) {
-                Cart cart = carts[line[i]];
-                if (cart.bridge == bridge.number) {
+                int number = line[i];
+                if (isBelow(number, cartCount) && carts[number].bridge == bridge.number) {
                     if (ahead == rank) {
-                        return cart;
+                        return carts[number];
                     }
                     ahead++;
                 }
