@@ -1,6 +1,7 @@
 /** Counts and prints the answers that are not the ones that are due. */
 final class Check {
     private final String title;
+    private String sentence = "";
     private int checks;
     private int wrong;
 
@@ -8,11 +9,16 @@ final class Check {
         this.title = title;
     }
 
+    /** Names the words of the document by which the next answers are due. */
+    void sentence(String words) {
+        sentence = " (" + words + ")";
+    }
+
     void due(String what, long got, long want) {
         checks++;
         if (got != want) {
             wrong++;
-            System.out.println(title + ": " + what + " answered " + got + ", due is " + want);
+            System.out.println(title + ": " + what + " answered " + got + ", due is " + want + sentence);
         }
     }
 
@@ -20,7 +26,7 @@ final class Check {
         checks++;
         if (!got.equals(want)) {
             wrong++;
-            System.out.println(title + ": " + what + " is \"" + got + "\", due is \"" + want + "\"");
+            System.out.println(title + ": " + what + " is \"" + got + "\", due is \"" + want + "\"" + sentence);
         }
     }
 
@@ -54,7 +60,8 @@ final class Check {
 
     static String pad(BridgeWardens wardens) {
         StringBuilder text = new StringBuilder();
-        for (int place = 0; wardens.sign(place) >= 0; place++) {
+        int length = wardens.count(13);
+        for (int place = 0; place < length; place++) {
             text.append((char) wardens.sign(place));
         }
         return text.toString();
@@ -62,25 +69,54 @@ final class Check {
 
     /** All that can be asked about the state without asking what if, but for the history. */
     static String state(BridgeWardens wardens) {
+        return counts(wardens) + bridges(wardens) + carts(wardens) + ranges(wardens);
+    }
+
+    static String counts(BridgeWardens wardens) {
         StringBuilder text = new StringBuilder();
         for (int what = 0; what <= 12; what++) {
             text.append(wardens.count(what)).append(' ');
         }
-        for (int bridge = 0; bridge < wardens.count(1); bridge++) {
-            text.append('\n');
+        return text.toString();
+    }
+
+    static String bridges(BridgeWardens wardens) {
+        StringBuilder text = new StringBuilder();
+        int bridges = wardens.count(1);
+        for (int bridge = 0; bridge < bridges; bridge++) {
+            text.append("\nb");
             for (int what = 0; what <= 7; what++) {
                 text.append(wardens.ofBridge(bridge, what)).append(' ');
             }
-            for (int rank = 0; wardens.waits(bridge, rank) >= 0; rank++) {
-                text.append('w').append(wardens.waits(bridge, rank)).append(' ');
+            int cart = wardens.waits(bridge, 0);
+            for (int rank = 1; cart >= 0; rank++) {
+                text.append('w').append(cart).append(' ');
+                cart = wardens.waits(bridge, rank);
             }
         }
-        for (int cart = 0; cart < wardens.count(2); cart++) {
-            text.append('\n');
+        return text.toString();
+    }
+
+    static String carts(BridgeWardens wardens) {
+        StringBuilder text = new StringBuilder();
+        int carts = wardens.count(2);
+        for (int cart = 0; cart < carts; cart++) {
+            text.append("\nc");
             for (int what = 0; what <= 7; what++) {
                 text.append(wardens.ofCart(cart, what)).append(' ');
             }
-            for (int bridge = 0; bridge < wardens.count(1); bridge++) {
+        }
+        return text.toString();
+    }
+
+    /** What the carts know of the bridges. */
+    static String ranges(BridgeWardens wardens) {
+        StringBuilder text = new StringBuilder();
+        int bridges = wardens.count(1);
+        int carts = wardens.count(2);
+        for (int cart = 0; cart < carts; cart++) {
+            text.append("\nk");
+            for (int bridge = 0; bridge < bridges; bridge++) {
                 text.append(wardens.knows(cart, bridge, 0)).append('-');
                 text.append(wardens.knows(cart, bridge, 1)).append(' ');
             }

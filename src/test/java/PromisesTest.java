@@ -854,17 +854,20 @@ public final class PromisesTest {
     }
 
     private static void winsOfAllPairs(BridgeWardens x) {
+        int lowest = x.knows(0, 1, 0);
+        int highest = x.knows(0, 1, 1);
         for (int guess = 0; guess < 10; guess++) {
             for (int other = 0; other < 10; other++) {
-                due("wins(0, 1, " + guess + ", " + other + ")", x.wins(0, 1, guess, other), won(x, guess, other));
+                due("wins(0, 1, " + guess + ", " + other + ")", x.wins(0, 1, guess, other),
+                    won(lowest, highest, guess, other));
             }
         }
     }
 
-    /** How many numbers cart 0 knows of bridge 1 that are nearer to the first guess, one by one. */
-    private static int won(BridgeWardens x, int guess, int other) {
+    /** How many numbers of a range are nearer to the first guess, counted one by one. */
+    private static int won(int lowest, int highest, int guess, int other) {
         int won = 0;
-        for (int number = x.knows(0, 1, 0); number <= x.knows(0, 1, 1); number++) {
+        for (int number = lowest; number <= highest; number++) {
             won += Math.abs(number - guess) < Math.abs(number - other) ? 1 : 0;
         }
         return won;
@@ -889,13 +892,18 @@ public final class PromisesTest {
         due("bestGuess(0, 1, 5, 0)", x.bestGuess(0, 1, 5, 0), 4);
         due("bestGuess(0, 1, 5, 1)", x.bestGuess(0, 1, 5, 1), 5);
         for (int hints = 0; hints < 4; hints++) {
+            int lowest = x.knows(0, 1, 0);
+            int highest = x.knows(0, 1, 1);
             for (int other = 0; other < 10; other++) {
                 int best = 0;
+                int most = won(lowest, highest, 0, other);
                 for (int guess = 9; guess >= 0; guess--) {
-                    best = won(x, guess, other) >= won(x, best, other) ? guess : best;
+                    int won = won(lowest, highest, guess, other);
+                    best = won >= most ? guess : best;
+                    most = Math.max(won, most);
                 }
                 due("bestGuess(0, 1, " + other + ", 0)", x.bestGuess(0, 1, other, 0), best);
-                due("bestGuess(0, 1, " + other + ", 1)", x.bestGuess(0, 1, other, 1), won(x, best, other));
+                due("bestGuess(0, 1, " + other + ", 1)", x.bestGuess(0, 1, other, 1), most);
             }
             x.hint(0, 1);
         }
@@ -1113,30 +1121,39 @@ public final class PromisesTest {
 
     private static void undo() {
         promise = 27;
-        BridgeWardens x = valley();
-        due("count(14)", x.count(14), 6);
-        String[] before = new String[8];
-        for (int step = 0; step < 8; step++) {
-            before[step] = Check.state(x);
-            due("change " + step, change(x, step) < 0 ? 1 : 0, 0);
-            due("count(14)", x.count(14), 6);
+        for (int undone = 0; undone <= 6; undone++) {
+            BridgeWardens x = changed(8);
+            x.put(0x41);
+            for (int times = 1; times <= undone; times++) {
+                due("undo()", x.undo(), 6 - times);
+            }
+            due("the state behind " + undone, Check.state(x), Check.state(changed(8 - undone)));
+            due("the pad stays", Check.pad(x), "A");
         }
-        x.put(0x41);
-        for (int step = 7; step >= 2; step--) {
-            due("undo()", x.undo(), step - 2);
-            due("the state before change " + step, Check.state(x), before[step]);
+        BridgeWardens x = changed(8);
+        for (int times = 0; times < 6; times++) {
+            x.undo();
         }
         due("undo() of none", x.undo(), NOT_POSSIBLE);
-        due("the state stays", Check.state(x), before[2]);
-        due("the pad stays", Check.pad(x), "A");
+        due("the state stays", Check.state(x), Check.state(changed(2)));
         due("a change again", change(x, 2) < 0 ? 1 : 0, 0);
         due("count(14)", x.count(14), 1);
         due("undo()", x.undo(), 0);
-        due("the state", Check.state(x), before[2]);
+        due("the state", Check.state(x), Check.state(changed(2)));
         undoOfTheSame();
         undoOfRiddles();
         undoOfEachChange();
         undoOfAnotherWorld();
+    }
+
+    /** The valley behind the first changes. */
+    private static BridgeWardens changed(int changes) {
+        BridgeWardens x = valley();
+        for (int step = 0; step < changes; step++) {
+            due("change " + step, change(x, step) < 0 ? 1 : 0, 0);
+            due("count(14)", x.count(14), 6);
+        }
+        return x;
     }
 
     /** Each change alone, from a state in which nothing is as it was first. */
@@ -1302,33 +1319,35 @@ public final class PromisesTest {
         due("restore(0)", x.restore(0), NOT_POSSIBLE);
         x.save(1);
         due("restore(0)", x.restore(0), NOT_POSSIBLE);
-        String saved = Check.state(x);
+        lateValley(x);
+        x.put(0x41);
+        String before = Check.state(x);
+        due("restore(1)", x.restore(1), 4);
+        due("the state that was saved", Check.state(x), Check.state(valley()));
+        due("the pad stays", Check.pad(x), "A");
+        due("count(14)", x.count(14), 6);
+        due("undo()", x.undo(), 5);
+        due("the state before", Check.state(x), before);
+        restoreKeepsTheSlot();
+    }
+
+    private static void lateValley(BridgeWardens x) {
         x.hint(0, 1);
         x.guess(0, 1, 5);
         x.guess(1, 1, 4);
         x.set(2, 9);
         x.pass(3);
-        String before = Check.state(x);
-        x.put(0x41);
-        for (int times = 0; times < 4; times++) {
-            x.undo();
-        }
-        due("count(14)", x.count(14), 2);
-        x.guess(0, 1, 5);
-        x.guess(1, 1, 4);
-        x.set(2, 9);
-        x.pass(3);
-        due("the state before", Check.state(x), before);
+    }
+
+    private static void restoreKeepsTheSlot() {
+        BridgeWardens x = valley();
+        x.save(1);
+        lateValley(x);
         due("restore(1)", x.restore(1), 4);
-        due("the state that was saved", Check.state(x), saved);
-        due("the pad stays", Check.pad(x), "A");
-        due("count(14)", x.count(14), 6);
-        due("undo()", x.undo(), 5);
-        due("the state before", Check.state(x), before);
-        due("restore(1) again", x.restore(1), 4);
+        lateValley(x);
         x.cart(0, 3);
-        due("restore(1) keeps the slot", x.restore(1), 4);
-        due("the state that was saved", Check.state(x), saved);
+        due("restore(1) again", x.restore(1), 4);
+        due("the state that was saved", Check.state(x), Check.state(valley()));
         due("count(14)", x.count(14), 6);
         x.bridge(0, 1, 1000);
         due("riddles go on as they were saved", x.ofBridge(2, 3), 28652 % 1000);
