@@ -462,15 +462,16 @@ public final class HistoryEdgesTest {
             x.hint(cart, 11 - cart);
             x.guess(cart, 11 - cart, 0);
         }
-        x.pass(3);
+        x.pass(9);
         String full = Check.bridges(x) + Check.carts(x);
         x.save(1);
         due("restore(0)", x.restore(0), 0);
         due("count(1)", x.count(1), 0);
         due("count(3)", x.count(3), 0);
         due("count(6)", x.count(6), 0);
-        due("bridge(0, 1, 1000)", x.bridge(0, 1, 1000), 0);
+        due("bridge(5, 6, 75)", x.bridge(5, 6, 75), 0);
         due("its riddle", x.ofBridge(0, 3), 74);
+        due("cart(5, 1)", x.cart(5, 1), 0);
         due("restore(1)", x.restore(1), 8);
         due("the state", Check.bridges(x) + Check.carts(x), full);
     }

@@ -28,6 +28,7 @@ public final class HourEdgesTest {
         paysAloneWhatItHas();
         giftsAtTheEdge();
         giftsOfEachWay();
+        giftsAndPaymentsSoFar();
         noGift();
         theOtherTown();
         doesNotWaitAnyMore();
@@ -526,6 +527,22 @@ public final class HourEdgesTest {
         x.pass(1);
         due("all that it paid", x.ofCart(0, 7), 9);
         due("ofBridge(0, 5)", x.ofBridge(0, 5), 0);
+    }
+
+    private static void giftsAndPaymentsSoFar() {
+        check.sentence("6 coins that it paid so far, 7 gifts that it got so far, in coins: of several times");
+        BridgeWardens x = valley(9);
+        x.set(WAIT, 1);
+        for (int times = 1; times <= 3; times++) {
+            x.hint(0, 0);
+            x.guess(0, 0, x.ofBridge(0, 3));
+            x.pass(2);
+            due("ofCart(0, 5)", x.ofCart(0, 5), times);
+            due("ofCart(0, 6)", x.ofCart(0, 6), 4 * times);
+            due("ofCart(0, 7)", x.ofCart(0, 7), 2 * times);
+            due("ofCart(0, 1)", x.ofCart(0, 1), 9 - 2 * times);
+            due("ofBridge(0, 5)", x.ofBridge(0, 5), 2 * times);
+        }
     }
 
     private static void noGift() {

@@ -27,6 +27,7 @@ public final class TextEdgesTest {
         textsOfAFullPad();
         numbersOfOrders();
         digitsOfOrders();
+        ordersAsCalls();
         noOrders();
         faultyOrders();
         upToTheFirstError();
@@ -400,6 +401,31 @@ public final class TextEdgesTest {
         due("fault() of " + order, x.fault(), NONE);
         due("carryOut() of " + order, x.carryOut(), carried);
         due(order + " changes something", Check.state(x).equals(before) ? 0 : 1, carried);
+    }
+
+    private static void ordersAsCalls() {
+        check.sentence("\"b\": bridge() between two towns, with a size; \"c\": cart(); \"g\": guess(); \"h\": hint(); \"l\": leave(); \"p\": pass()");
+        BridgeWardens x = typed("b37*21;b53*1000;b75*300;c5*12;c3*9999;c7*0;g1:0=20;h0:1");
+        due("carryOut()", x.carryOut(), 8);
+        Check.type(x, "g0:2=299;h1:0;p4;l1;g1:1=7;h1:1");
+        due("carryOut()", x.carryOut(), 6);
+        BridgeWardens same = new BridgeWardens();
+        same.bridge(3, 7, 21);
+        same.bridge(5, 3, 1000);
+        same.bridge(7, 5, 300);
+        same.cart(5, 12);
+        same.cart(3, 9999);
+        same.cart(7, 0);
+        same.guess(1, 0, 20);
+        same.hint(0, 1);
+        same.guess(0, 2, 299);
+        same.hint(1, 0);
+        same.pass(4);
+        same.leave(1);
+        same.guess(1, 1, 7);
+        same.hint(1, 1);
+        due("the state", Check.state(x), Check.state(same));
+        due("ofCart(1, 2)", x.ofCart(1, 2), 1);
     }
 
     private static void noOrders() {
