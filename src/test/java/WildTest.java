@@ -1,10 +1,11 @@
 /**
  * No call ever throws, for any arguments in any state (LANGUAGE.md, rule 7), also behind the 512th call, where the answers
- * are free: a call that throws ends this test. An answer that is below 0 is one of the codes.
+ * are free: a call that throws ends this test. Up to there an answer that is below 0 is one of the codes.
  */
 public final class WildTest {
     private static final int OBJECTS = 60;
     private static final int CALLS = 3000;
+    private static final int PROMISED_CALLS = 512;
     private static final int LEAST_CODE = -6;
     private static final Check check = new Check("WildTest");
 
@@ -21,7 +22,9 @@ public final class WildTest {
             WildTest test = new WildTest(object);
             for (int call = 0; call < CALLS; call++) {
                 int answer = test.call(test.roll(28));
-                check.due("an answer below all codes", answer < LEAST_CODE ? answer : 0, 0);
+                if (call < PROMISED_CALLS) {
+                    check.due("an answer below all codes", answer < LEAST_CODE ? answer : 0, 0);
+                }
             }
         }
         check.end();
