@@ -11,6 +11,7 @@ import java.util.Set;
 import java.util.TreeSet;
 import java.util.regex.Matcher;
 import java.util.regex.Pattern;
+import java.util.stream.Collectors;
 
 /** The rules of LANGUAGE.md that can be seen from the text of the program and from its compiled face. */
 public final class LanguageTest {
@@ -18,14 +19,14 @@ public final class LanguageTest {
     private static final Pattern FORBIDDEN = Pattern.compile("\\b(throw|throws|try|catch|finally|synchronized|assert|import"
         + "|package|volatile|native|Object|Thread|Random|System\\.(?!arraycopy\\b)\\w+|equals|hashCode|toString|var)\\b"
         + "|->|::|@|\\bnew\\s+\\w+\\s*\\([^)]*\\)\\s*\\{");
-    private static final Set<String> FACE = new TreeSet<>(List.of("set 2", "bridge 3", "cart 2", "guess 3", "leave 1",
-        "hint 2", "pass 1", "write 1", "ofBridge 2", "ofCart 2", "knows 3", "waits 2", "sign 1", "count 1", "next 1",
-        "why 1", "overIn 1", "wins 4", "bestGuess 4", "route 3", "would 2", "put 1", "wipe 0", "fault 0", "carryOut 0",
-        "undo 0", "save 1", "restore 1"));
+    private static final Path DOCUMENT = Path.of("../shared/DOC.md");
     private static final Check check = new Check("LanguageTest");
+    /** The face as the document tells it: methods with the types of what they are given, constants with their values. */
+    private static final Set<String> face = new TreeSet<>();
 
     public static void main(String[] args) throws Exception {
         String text = Files.readString(SOURCE);
+        readFace(Files.readString(DOCUMENT));
         check.due("signs beyond 127", text.chars().filter(sign -> sign > 127).count(), 0);
         words(bare(text));
         methodLengths(text);
@@ -65,31 +66,52 @@ public final class LanguageTest {
         }
     }
 
-    private static void face() {
+    private static void readFace(String document) {
+        String told = document.substring(document.indexOf("```java"), document.indexOf("## Terms"));
+        Matcher method = Pattern.compile("public int (\\w+)\\((.*)\\);").matcher(told);
+        while (method.find()) {
+            face.add("int " + method.group(1) + "(" + method.group(2).replaceAll(" \\w+(?=,|$)", "") + ")");
+        }
+        Matcher constant = Pattern.compile("([A-Z_]+ = -?\\d+)[,;]").matcher(told);
+        while (constant.find()) {
+            face.add(constant.group(1));
+        }
+        check.due("parts of the face", face.size(), 38);
+    }
+
+    private static void face() throws IllegalAccessException {
         Set<String> found = new TreeSet<>();
         for (Method method : BridgeWardens.class.getDeclaredMethods()) {
-            if (Modifier.isPublic(method.getModifiers())) {
-                found.add(method.getName() + " " + method.getParameterCount());
-                check.due(method.getName() + " answers an int", method.getReturnType() == int.class ? 1 : 0, 1);
-            } else {
-                privateOne(method.getName(), method.getModifiers(), method.isSynthetic());
+            int modifiers = method.getModifiers();
+            if (Modifier.isPublic(modifiers)) {
+                found.add(method.getReturnType() + " " + method.getName() + "(" + given(method) + ")");
+                check.due(method.getName() + " is of the object", Modifier.isStatic(modifiers) ? 1 : 0, 0);
+            } else if (!method.isSynthetic()) {
+                check.due(method.getName() + " is private", Modifier.isPrivate(modifiers) ? 1 : 0, 1);
+                notOfTheFace(method.getName());
             }
         }
-        check.due("the face", found.toString(), FACE.toString());
         for (Field field : BridgeWardens.class.getDeclaredFields()) {
-            if (!Modifier.isPublic(field.getModifiers())) {
+            if (Modifier.isPublic(field.getModifiers())) {
+                check.due(field + "", Modifier.toString(field.getModifiers()), "public static final");
+                found.add(field.getName() + " = " + field.getInt(null));
+            } else {
                 check.due(field.getName() + " is private", Modifier.isPrivate(field.getModifiers()) ? 1 : 0, 1);
             }
         }
+        check.due("the face", found.toString(), face.toString());
+        check.due("the class", Modifier.toString(BridgeWardens.class.getModifiers()), "public final");
         Constructor<?>[] made = BridgeWardens.class.getDeclaredConstructors();
-        check.due("constructors", made.length, 1);
-        check.due("the constructor", Arrays.toString(made), "[public BridgeWardens()]");
+        check.due("the constructors", Arrays.toString(made), "[public BridgeWardens()]");
     }
 
-    private static void privateOne(String name, int modifiers, boolean synthetic) {
-        boolean ofTheFace = FACE.stream().anyMatch(method -> method.startsWith(name + " "));
-        check.due(name + " is private and not named as one of the face",
-            synthetic || Modifier.isPrivate(modifiers) && !ofTheFace ? 1 : 0, 1);
+    private static String given(Method method) {
+        return Arrays.stream(method.getParameterTypes()).map(Class::getName).collect(Collectors.joining(", "));
+    }
+
+    private static void notOfTheFace(String name) {
+        boolean ofTheFace = face.stream().anyMatch(told -> told.startsWith("int " + name + "("));
+        check.due(name + " is not named as one of the face", ofTheFace ? 1 : 0, 0);
     }
 
     private static void classesInside() {
@@ -101,8 +123,7 @@ public final class LanguageTest {
             check.due(inside.getName() + " is hidden", modifiers & (Modifier.PUBLIC | Modifier.PROTECTED), 0);
             for (Method method : inside.getDeclaredMethods()) {
                 check.due(method.getName() + " has few parameters", method.getParameterCount() <= 7 ? 1 : 0, 1);
-                boolean ofTheFace = FACE.stream().anyMatch(face -> face.startsWith(method.getName() + " "));
-                check.due(method.getName() + " is not named as one of the face", ofTheFace ? 1 : 0, 0);
+                notOfTheFace(method.getName());
             }
             long fields = Arrays.stream(inside.getDeclaredFields())
                 .filter(field -> !Modifier.isStatic(field.getModifiers())).count();
