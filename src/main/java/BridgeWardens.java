@@ -374,7 +374,7 @@ public final class BridgeWardens {
         }
     }
 
-    /** A bridge with its warden; it is between no towns until it comes. */
+    /** A bridge with its warden; until it comes it is not asked about anything. */
     private static final class Bridge {
         final int number;
         int town;
